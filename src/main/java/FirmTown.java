@@ -42,6 +42,7 @@ public final class FirmTown {
     private static final int FOR_RANK = 2;
 
     private static final int MOST_SOLD_AT_ONCE = 7;
+    private static final int HOUSE_BITS = 32;
     private static final int PERSON_BITS = 6;
     private static final int PERSON_MASK = 63;
     private static final int SUM_SHIFT = PERSON_BITS * MOST_SOLD_AT_ONCE;
@@ -674,7 +675,7 @@ public final class FirmTown {
     /** Lays out the HOUSES of some bits: whether they can be sold together. */
     private boolean offer(int bits) {
         offered.clear();
-        for (int i = 0; i < Integer.SIZE; i++) {
+        for (int i = 0; i < HOUSE_BITS; i++) {
             if ((bits >>> i & 1) == 1) {
                 House h = houseAt(i);
                 if (h == null || h.state == SOLD || offered.size() >= MOST_SOLD_AT_ONCE) {
@@ -1289,8 +1290,11 @@ public final class FirmTown {
         private final int[] starts = new int[MOST_BYTES + 1];
         private final int[] behinds = new int[MOST_BYTES + 1];
         private int tokenCount = 0;
-        /** The TOKEN at hand. */
-        private int at = 0;
+        /** The TOKEN at hand: its number, what it is, its first byte, and the one behind it. */
+        private int at = -1;
+        private int token = END;
+        private int start = 0;
+        private int behind = 0;
 
         boolean hasSpaceFor(int bytes) {
             return bytes <= tape.length - length;
@@ -1311,8 +1315,9 @@ public final class FirmTown {
             fault = 0;
             faultPlace = NONE;
             codeLength = 0;
-            at = 0;
-            for (int i = 0; i <= MOST_STATEMENTS && fault == 0 && token() != END; i++) {
+            at = -1;
+            next();
+            for (int i = 0; i <= MOST_STATEMENTS && fault == 0 && token != END; i++) {
                 readStatement(text, i);
             }
             length = 0;
@@ -1339,7 +1344,7 @@ public final class FirmTown {
             }
             for (int i = 0; i < tokenCount && i < tokens.length; i++) {
                 if (tokens[i] == LETTERS) {
-                    tokens[i] = knownOr(starts[i], behinds[i]);
+                    tokens[i] = knownAs(starts[i], behinds[i]);
                 }
             }
             addToken(END, length, length);
@@ -1356,30 +1361,31 @@ public final class FirmTown {
             return within(sign, '0', '9') ? NUMBER : sign;
         }
 
-        private void addToken(int token, int start, int behind) {
+        private void addToken(int sort, int from, int to) {
             if (within(tokenCount, 0, tokens.length - 1)) {
-                tokens[tokenCount] = token;
-                starts[tokenCount] = start;
-                behinds[tokenCount] = behind;
+                tokens[tokenCount] = sort;
+                starts[tokenCount] = from;
+                behinds[tokenCount] = to;
                 tokenCount++;
             }
         }
 
-        private int knownOr(int start, int behind) {
+        /** What a word is as a TOKEN. */
+        private int knownAs(int from, int to) {
             for (int i = 0; i < WORDS + Text.WORDS; i++) {
-                if (isSpelled(wordOf(i), start, behind)) {
+                if (isSpelled(wordOf(i), from, to)) {
                     return KNOWN + i;
                 }
             }
             return LETTERS;
         }
 
-        private boolean isSpelled(String word, int start, int behind) {
-            if (behind - start != word.length() || start < 0 || behind > tape.length) {
+        private boolean isSpelled(String word, int from, int to) {
+            if (to - from != word.length() || from < 0 || to > tape.length) {
                 return false;
             }
             for (int i = 0; i < word.length(); i++) {
-                if (tape[start + i] != word.charAt(i)) {
+                if (tape[from + i] != word.charAt(i)) {
                     return false;
                 }
             }
@@ -1413,33 +1419,29 @@ public final class FirmTown {
             }
         }
 
-        private int token() {
-            return at < tokenCount && within(at, 0, tokens.length - 1) ? tokens[at] : END;
+        private void next() {
+            at++;
+            boolean isThere = at >= 0 && at < tokenCount && at < tokens.length;
+            token = isThere ? tokens[at] : END;
+            start = isThere ? starts[at] : length;
+            behind = isThere ? behinds[at] : length;
         }
 
         private boolean isKnown(int known) {
-            return token() == KNOWN + known;
-        }
-
-        private int start() {
-            return within(at, 0, starts.length - 1) ? starts[at] : length;
-        }
-
-        private int behind() {
-            return within(at, 0, behinds.length - 1) ? behinds[at] : length;
+            return token == KNOWN + known;
         }
 
         private boolean fail(int kind) {
             fault = kind;
-            faultPlace = start();
+            faultPlace = start;
             return false;
         }
 
-        private boolean skip(int token) {
-            if (token() != token) {
+        private boolean skip(int wanted) {
+            if (token != wanted) {
                 return fail(UNFIT);
             }
-            at++;
+            next();
             return true;
         }
 
@@ -1453,40 +1455,48 @@ public final class FirmTown {
         // -- STATEMENTS --
 
         private boolean readStatement(Text text, int number) {
-            int kind = token() - KNOWN;
+            int kind = token - KNOWN;
             if (!within(kind, RENT, STRIKE)) {
                 return fail(UNFIT);
             }
             if (number >= MOST_STATEMENTS) {
                 return fail(TOO_MANY);
             }
-            at++;
-            if (kind == FINE && (token() < LETTERS || behind() - start() > 8)) {
+            next();
+            if (kind == FINE && (token < LETTERS || behind - start > 8)) {
                 return fail(UNFIT);
             }
             Statement s = new Statement(number, kind, kind == FINE ? readName() : 0);
             text.statements.add(s);
-            boolean read = kind == STRIKE ? readStruck(text) : readValue(s) && readIf(s);
+            if (kind == STRIKE) {
+                return readStruck(text) && skip(';');
+            }
+            boolean read = readValue(s);
+            if (read && isKnown(IF)) {
+                next();
+                read = readCond(0);
+            }
+            s.condTo = codeLength;
             return read && skip(';');
         }
 
         /** The letters of a NAME in one number: eight at most, a byte each. */
         private long readName() {
             long letters = 0;
-            for (int i = start(); i < behind() && within(i, 0, tape.length - 1); i++) {
+            for (int i = start; i < behind && within(i, 0, tape.length - 1); i++) {
                 letters = letters << 8 | tape[i];
             }
-            at++;
+            next();
             return letters;
         }
 
         private boolean readStruck(Text text) {
-            int struck = token() - KNOWN;
+            int struck = token - KNOWN;
             if (!within(struck, RENT, FINE)) {
                 return fail(UNFIT);
             }
             text.strike(struck);
-            at++;
+            next();
             return true;
         }
 
@@ -1504,29 +1514,19 @@ public final class FirmTown {
             return read;
         }
 
-        private boolean readIf(Statement s) {
-            boolean read = true;
-            if (isKnown(IF)) {
-                at++;
-                read = readCond(0);
-            }
-            s.condTo = codeLength;
-            return read;
-        }
-
         private boolean readNumber(int least, int most) {
-            if (token() != NUMBER || behind() - start() > 4) {
+            if (token != NUMBER || behind - start > 4) {
                 return fail(UNFIT);
             }
             int number = 0;
-            for (int i = start(); i < behind() && within(i, 0, tape.length - 1); i++) {
+            for (int i = start; i < behind && within(i, 0, tape.length - 1); i++) {
                 number = 10 * number + tape[i] - '0';
             }
             if (!within(number, least, most)) {
                 return fail(WRONG_NUMBER);
             }
             emit(number);
-            at++;
+            next();
             return true;
         }
 
@@ -1535,7 +1535,7 @@ public final class FirmTown {
         private boolean readCond(int open) {
             boolean read = readBoth(open);
             for (int i = 0; i < MOST_BYTES && read && isKnown(OR); i++) {
-                at++;
+                next();
                 read = readBoth(open);
                 emit(Text.OR);
             }
@@ -1545,7 +1545,7 @@ public final class FirmTown {
         private boolean readBoth(int open) {
             boolean read = readPart(open);
             for (int i = 0; i < MOST_BYTES && read && isKnown(AND); i++) {
-                at++;
+                next();
                 read = readPart(open);
                 emit(Text.AND);
             }
@@ -1555,10 +1555,10 @@ public final class FirmTown {
         private boolean readPart(int open) {
             int nots = 0;
             while (nots < MOST_BYTES && isKnown(NOT)) {
-                at++;
+                next();
                 nots++;
             }
-            boolean read = token() == '[' ? readBrackets(open) : readComparison(open);
+            boolean read = token == '[' ? readBrackets(open) : readComparison(open);
             if (nots % 2 == 1) {
                 emit(Text.NOT);
             }
@@ -1569,7 +1569,7 @@ public final class FirmTown {
             if (open >= MOST_BRACKETS) {
                 return fail(TOO_MANY);
             }
-            at++;
+            next();
             return readCond(open + 1) && skip(']');
         }
 
@@ -1578,13 +1578,13 @@ public final class FirmTown {
                 return false;
             }
             int relation;
-            switch (token()) {
+            switch (token) {
                 case '<': relation = Text.LESS; break;
                 case '>': relation = Text.MORE; break;
                 case '=': relation = Text.LIKE; break;
                 default: return fail(UNFIT);
             }
-            at++;
+            next();
             boolean read = readSum(open);
             emit(relation);
             return read;
@@ -1592,9 +1592,9 @@ public final class FirmTown {
 
         private boolean readSum(int open) {
             boolean read = readProduct(open);
-            for (int i = 0; i < MOST_BYTES && read && (token() == '+' || token() == '-'); i++) {
-                int operator = token() == '+' ? Text.PLUS : Text.MINUS;
-                at++;
+            for (int i = 0; i < MOST_BYTES && read && (token == '+' || token == '-'); i++) {
+                int operator = token == '+' ? Text.PLUS : Text.MINUS;
+                next();
                 read = readProduct(open);
                 emit(operator);
             }
@@ -1603,8 +1603,8 @@ public final class FirmTown {
 
         private boolean readProduct(int open) {
             boolean read = readFactor(open);
-            for (int i = 0; i < MOST_BYTES && read && token() == '*'; i++) {
-                at++;
+            for (int i = 0; i < MOST_BYTES && read && token == '*'; i++) {
+                next();
                 read = readFactor(open);
                 emit(Text.TIMES);
             }
@@ -1612,14 +1612,13 @@ public final class FirmTown {
         }
 
         private boolean readFactor(int open) {
-            int token = token();
             if (token >= LETTERS) {
                 int word = token - KNOWN - WORDS;
                 if (word < 0) {
                     return fail(NO_WORD);
                 }
                 emit(Text.FIRST_WORD - word);
-                at++;
+                next();
                 return true;
             }
             if (token != '(') {
@@ -1628,7 +1627,7 @@ public final class FirmTown {
             if (open >= MOST_BRACKETS) {
                 return fail(TOO_MANY);
             }
-            at++;
+            next();
             return readSum(open + 1) && skip(')');
         }
     }
