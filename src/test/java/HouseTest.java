@@ -304,6 +304,9 @@ public final class HouseTest {
         whyPassed(x, 1, 0, 1, 0, 0);
         x.person(2, 20);
         Check.due("who came later", x.passed(5), 0);
+        x.house(9, 0);
+        Check.due("given", x.give(4), 2);
+        whyPassed(x, 0, 0, 0, 0, 0);
     }
 
     private static void whyPassed(FirmTown x, int... due) {

@@ -11,6 +11,8 @@ public final class RuleTest {
         known();
         quarrels();
         fines();
+        manyNames();
+        ofWhom();
         Check.close("RuleTest");
     }
 
@@ -232,5 +234,38 @@ public final class RuleTest {
         Check.due("drunk", x.fineOf(1, 0, 0, 0), 1);
         Check.due("new", x.fineOf(3, 0, 0, 0), 2);
         Check.due("new on another day", x.fineOf(3, 0, 9999, 0), 2);
+    }
+
+    /** Twelve TEXTS with ten NAMES each. */
+    private static void manyNames() {
+        FirmTown x = new FirmTown();
+        x.person(2, 30);
+        for (char t = 'a'; t < 'a' + 12; t++) {
+            StringBuilder text = new StringBuilder();
+            for (char s = 'a'; s < 'a' + 10; s++) {
+                text.append("fine ").append(t).append("bcdefg").append(s);
+                text.append(' ').append(10 * (t - 'a') + s - 'a' + 1).append(';');
+            }
+            Check.due("text", Check.tell(x, 0, text.toString()), t - 'a');
+        }
+        Check.due("names", x.count(4), 120);
+        for (int name = 0; name < 120; name++) {
+            Check.due("fine", x.fineOf(name, 0, 0, 0), name + 1);
+        }
+    }
+
+    private static void ofWhom() {
+        FirmTown x = new FirmTown();
+        x.person(2, 30);
+        x.person(2, 50);
+        Check.tell(x, 0, "rank age;rank 30 if age=50;fine a 1 if age=50;");
+        Check.due("value", x.value(4, 0, 0, 0), 30);
+        Check.due("why", x.why(4, 1, 0, 0), 1);
+        Check.due("value", x.value(4, 0, 0, 0), 30);
+        Check.due("quarrel", x.quarrel(4, 1, 0, 0), 1);
+        Check.due("quarrel", x.quarrel(4, 0, 0, 0), 0);
+        Check.due("fineOf", x.fineOf(0, 1, 0, 0), 1);
+        Check.due("why", x.why(4, 0, 0, 0), 0);
+        Check.due("fineOf", x.fineOf(0, 0, 0, 0), 0);
     }
 }

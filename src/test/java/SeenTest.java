@@ -83,7 +83,7 @@ public final class SeenTest {
         FirmTown x = new FirmTown();
         x.person(2, 30);
         x.person(2, 60);
-        Check.tell(x, 0, "fine a 5;fine b 6;");
+        Check.tell(x, 0, "fine a 1;fine b 6;");
         x.seen(0, 0);
         x.seen(1, 0);
         x.seen(0, 0);
@@ -122,6 +122,12 @@ public final class SeenTest {
         Check.due("no such", x.mends(60), -1);
         Check.due("no such", x.mends(-1), -1);
         Check.due("a mended one counts", x.flaw(0, 1), -1);
+        x = new FirmTown();
+        x.house(2, 2);
+        x.days(5);
+        x.flaw(0, 3);
+        x.days(4);
+        Check.due("days since it was found", x.mends(0), 4);
     }
 
     private static void waits() {

@@ -51,7 +51,8 @@ public final class StoreTest {
         Check.due("no stock", x.buys(0, 3, 1), -2);
         x.good(4, 1, 1, 99);
         x.good(3, 1, 1, 99);
-        Check.due("a first price", x.buys(0, 4, 1), -3);
+        Check.due("an empty purse", x.buys(0, 4, 1), -3);
+        Check.due("the last good", x.buys(0, 5, 1), -2);
     }
 
     private static void credit() {

@@ -9,6 +9,7 @@ public final class TextTest {
         noWords();
         tooMany();
         places();
+        fullTape();
         sums();
         conds();
         Check.close("TextTest");
@@ -198,6 +199,21 @@ public final class TextTest {
         Check.due("place", x.place(), 4);
         Check.due("text", Check.tell(x, 0, "keep;"), 0);
         Check.due("place of a taken one", x.place(), -1);
+    }
+
+    private static void fullTape() {
+        FirmTown x = new FirmTown();
+        x.person(2, 30);
+        take(x, "rank1" + "+1".repeat(147) + ";");
+        Check.due("a sum of 148", x.value(4, 0, 0, 0), 148);
+        take(x, "keep if not " + "not ".repeat(70) + "1=2;");
+        Check.due("many nots", x.value(3, 0, 0, 0), 1);
+        take(x, "keep if " + "1=2or ".repeat(30) + "1=1 and" + " 1=1and".repeat(8) + " 2=2;");
+        Check.due("many parts", x.value(3, 0, 0, 0), 1);
+        refuse("rank1" + "+1".repeat(147) + "+", -2, 300);
+        refuse("keep;" + " ".repeat(294) + "x", -2, 299);
+        refuse("keep" + " ".repeat(296), -2, 300);
+        refuse(";".repeat(300), -2, 0);
     }
 
     private static void sums() {
