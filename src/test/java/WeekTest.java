@@ -100,14 +100,20 @@ public final class WeekTest {
         Check.due("the first row stays", x.row(0, 0, 0), 120);
     }
 
-    /** A PERSON that owes 9 of fines, 40 of arrears, 50 of debt, and saves 30 a WEEK. */
-    private static FirmTown owing(int most, int hours) {
+    /** A PERSON with tenpence an hour that is let a HOUSE. */
+    private static FirmTown home() {
         FirmTown x = new FirmTown();
         x.person(1, 30);
         x.house(1, 1);
         x.post(0, 10);
         x.asks(0);
         x.give(0);
+        return x;
+    }
+
+    /** A PERSON that owes 9 of fines, 40 of arrears, 50 of debt, and saves 30 a WEEK. */
+    private static FirmTown owing(int most, int hours) {
+        FirmTown x = home();
         Check.tell(x, 0, "fine a 9;credit 50;rent 20;most " + most + ";");
         x.seen(0, 0);
         x.fines(0);
@@ -164,12 +170,7 @@ public final class WeekTest {
     }
 
     private static void rulesOfTheDay() {
-        FirmTown x = new FirmTown();
-        x.person(1, 30);
-        x.house(1, 1);
-        x.post(0, 10);
-        x.asks(0);
-        x.give(0);
+        FirmTown x = home();
         Check.tell(x, 6, "rent 10;most 50;");
         Check.tell(x, 7, "rent 20;");
         x.hours(0, 0, 10);
@@ -185,12 +186,7 @@ public final class WeekTest {
     }
 
     private static void wordsAheadOfAll() {
-        FirmTown x = new FirmTown();
-        x.person(1, 30);
-        x.house(1, 1);
-        x.post(0, 10);
-        x.asks(0);
-        x.give(0);
+        FirmTown x = home();
         Check.tell(x, 0, "rent 5+arrears;most 40 if arrears>0;");
         x.days(7);
         Check.due("rent", x.row(0, 0, 1), 5);
@@ -205,12 +201,7 @@ public final class WeekTest {
     }
 
     private static void soldHouse() {
-        FirmTown x = new FirmTown();
-        x.person(1, 30);
-        x.house(1, 1);
-        x.post(0, 10);
-        x.asks(0);
-        x.give(0);
+        FirmTown x = home();
         Check.tell(x, 0, "rent 5;");
         x.days(7);
         x.bid(0, 0, 1);
