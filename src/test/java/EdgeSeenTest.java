@@ -21,6 +21,7 @@ public final class EdgeSeenTest {
         waitsOfWhich();
         waitsByDays();
         waitsMost();
+        flawsOfASoldHouse();
         longestWait();
         Check.close("EdgeSeenTest");
     }
@@ -307,6 +308,18 @@ public final class EdgeSeenTest {
         x.mends(2);
         x.mends(3);
         Check.due("the first of like ones", x.waits(0, 1), 0);
+    }
+
+    private static void flawsOfASoldHouse() {
+        FirmTown x = Towns.of(1, 2);
+        x.flaw(0, 2);
+        x.bid(0, 0, 1);
+        x.sold(0, 0);
+        Check.due("a FAULT of it", x.flaw(0, 1), 1);
+        x.days(3);
+        Check.due("it WAITS", x.waits(0, 0), 9);
+        Check.due("most", x.waits(1, 1), 0);
+        Check.due("mended", x.mends(0), 3);
     }
 
     private static void longestWait() {

@@ -336,6 +336,14 @@ public final class EdgeTextTest {
         fault(4, 9, "rent (((((x)))));");
         fault(3, 9, "rent ((((x");
         fault(2, 11, "keep;leave 100;" + TEN);
+        fault(1, 7, "rent 1**2");
+        fault(1, 7, "rent 1**x;");
+        fault(1, 7, "rent 1+*x;");
+        fault(1, 7, "rent 1+-2");
+        fault(1, 10, "keep if 1==x;");
+        fault(1, 15, "keep if [[1=1]]]x;");
+        fault(3, 16, "keep if 1=1 and and x");
+        fault(3, 15, "keep if 1=1 or or x");
     }
 
     /** Of one place the least. */
