@@ -1446,7 +1446,7 @@ public final class FirmTown {
         }
 
         private void emit(int part) {
-            if (within(codeLength, 0, code.length - 1)) {
+            if (codeLength >= 0 && codeLength < code.length) {
                 code[codeLength] = part;
                 codeLength++;
             }

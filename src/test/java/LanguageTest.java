@@ -4,6 +4,8 @@ import java.lang.reflect.Constructor;
 import java.lang.reflect.Field;
 import java.lang.reflect.Method;
 import java.lang.reflect.Modifier;
+import java.net.URI;
+import java.net.URISyntaxException;
 import java.nio.file.Files;
 import java.nio.file.Path;
 import java.util.ArrayList;
@@ -12,7 +14,7 @@ import java.util.Set;
 import java.util.TreeSet;
 import java.util.stream.Stream;
 
-/** What LANGUAGE.md rules out, as far as the compiled classes tell: in a folder (out, if none is named). */
+/** What LANGUAGE.md rules out, as far as the compiled class and those inside it tell. */
 public final class LanguageTest {
     private static final Set<String> LIBRARY = Set.of("java.lang.Object", "java.lang.String",
             "java.lang.Math", "java.util.ArrayList", "java.util.Arrays",
@@ -30,20 +32,28 @@ public final class LanguageTest {
             "buyer", "sold", "of", "houseOf", "count");
     private static final Set<String> THROWING = Set.of("value", "row", "of");
 
-    public static void main(String[] args) throws IOException {
+    public static void main(String[] args) throws IOException, URISyntaxException {
         face();
-        try (Stream<Path> files = Files.list(Path.of(args.length > 0 ? args[0] : "out"))) {
-            for (Path file : files.filter(f -> f.toString().endsWith(".class")).toList()) {
-                new ClassFile(file).check();
-            }
-        }
         List<Class<?>> classes = new ArrayList<>(List.of(FirmTown.class.getDeclaredClasses()));
+        List<Path> files = classFiles();
+        Check.due("class files", files.size() > classes.size(), true);
+        for (Path file : files) {
+            new ClassFile(file).check();
+        }
         Check.due("classes are some twelve at most", classes.size() <= 12, true);
         classes.add(FirmTown.class);
         for (Class<?> c : classes) {
             members(c);
         }
         Check.close("LanguageTest");
+    }
+
+    /** Where this test was compiled to, other classes stand beside those of the program. */
+    private static List<Path> classFiles() throws IOException, URISyntaxException {
+        URI folder = FirmTown.class.getProtectionDomain().getCodeSource().getLocation().toURI();
+        try (Stream<Path> files = Files.list(Path.of(folder))) {
+            return files.filter(f -> f.getFileName().toString().matches("FirmTown(\\$.*)?\\.class")).toList();
+        }
     }
 
     private static void face() {
